@@ -53,9 +53,9 @@ public final class SermonPanes {
     private static final int HIGHEST_NUMBER = 1000;
     private static final int HIGHEST_TIMES = 20;
 
-    /** Beyond every SUM that is not BROKEN. */
-    private static final int BROKEN = Integer.MIN_VALUE;
     private static final int FURTHEST = 1000000000;
+    /** Further than any SUM that is not BROKEN. */
+    private static final int BROKEN = -2 * FURTHEST;
 
     private static final int STAINS = 0;
     private static final int DOES = 1;
@@ -1148,57 +1148,48 @@ public final class SermonPanes {
             faultAt = NONE;
             text.clear();
             next();
-            boolean fine = ordering ? orderClause() : lawClause();
+            boolean fine = clause();
             for (int i = 0; i < TAPE && fine && token != END; i++) {
-                fine = isSign(';') ? nextClause() : fail();
+                boolean goesOn = isSign(';');
+                if (goesOn) {
+                    next();
+                }
+                fine = goesOn && text.clauses < CLAUSES ? clause() : fail();
             }
             return fine;
         }
 
-        private boolean nextClause() {
-            next();
-            if (text.clauses >= CLAUSES) {
-                return fail();
-            }
-            return ordering ? orderClause() : lawClause();
-        }
-
-        private boolean lawClause() {
-            int kind = indexIn(LAW_KINDS);
+        private boolean clause() {
+            int kind = indexIn(ordering ? ORDER_KINDS : LAW_KINDS);
             if (kind == NONE) {
                 return fail();
             }
             next();
             text.begin(kind);
-            if (kind != BARS && !markedSum(Text.FIRST)) {
-                return false;
+            boolean alone = kind == (ordering ? PASS : BARS);
+            boolean fine = alone || sumAs(Text.FIRST);
+            if (fine && ordering && kind == SCRAPE) {
+                fine = wanted("of") && sumAs(Text.SECOND);
             }
-            return condition();
-        }
-
-        private boolean orderClause() {
-            int kind = indexIn(ORDER_KINDS);
-            if (kind == NONE) {
-                return fail();
+            if (fine && ordering && kind == SIT) {
+                fine = wanted("at") && sumAs(Text.SECOND);
             }
-            next();
-            text.begin(kind);
-            if (kind != PASS && !markedSum(Text.FIRST)) {
-                return false;
+            if (fine && ordering && isWord("times")) {
+                fine = often();
             }
-            if (kind == SCRAPE && !(wanted("of") && markedSum(Text.SECOND))) {
-                return false;
+            if (fine && isWord("if")) {
+                next();
+                text.mark(Text.TEST, text.size);
+                fine = test(0);
+                text.mark(Text.TEST + 1, text.size);
             }
-            if (kind == SIT && !(wanted("at") && markedSum(Text.SECOND))) {
-                return false;
+            if (fine) {
+                text.clauses++;
             }
-            return often() && condition();
+            return fine;
         }
 
         private boolean often() {
-            if (!isWord("times")) {
-                return true;
-            }
             next();
             if (token != DIGITS || !within(number, 1, HIGHEST_TIMES)) {
                 return fail();
@@ -1208,27 +1199,11 @@ public final class SermonPanes {
             return true;
         }
 
-        /** The CLAUSE's end. */
-        private boolean condition() {
-            if (isWord("if")) {
-                next();
-                text.mark(Text.TEST, text.size);
-                if (!test(0)) {
-                    return false;
-                }
-                text.mark(Text.TEST + 1, text.size);
-            }
-            text.clauses++;
-            return true;
-        }
-
-        private boolean markedSum(int part) {
+        private boolean sumAs(int part) {
             text.mark(part, text.size);
-            if (!sum(0)) {
-                return false;
-            }
+            boolean fine = sum(0);
             text.mark(part + 1, text.size);
-            return true;
+            return fine;
         }
 
         private boolean test(int depth) {
@@ -1265,28 +1240,21 @@ public final class SermonPanes {
             if (isSign('(')) {
                 fine = opened(depth) && test(depth + 1) && closed(')');
             } else {
-                fine = compared(depth);
+                fine = sum(depth);
+                int op = signIn("<>=", Text.LESS);
+                if (fine && op == NONE) {
+                    return fail();
+                }
+                if (fine) {
+                    next();
+                    fine = sum(depth);
+                    text.add(op, 0);
+                }
             }
             if (fine && turned) {
                 text.add(Text.NOT, 0);
             }
             return fine;
-        }
-
-        private boolean compared(int depth) {
-            if (!sum(depth)) {
-                return false;
-            }
-            int op = signIn("<>=", Text.LESS);
-            if (op == NONE) {
-                return fail();
-            }
-            next();
-            if (!sum(depth)) {
-                return false;
-            }
-            text.add(op, 0);
-            return true;
         }
 
         private boolean sum(int depth) {
@@ -1431,35 +1399,27 @@ public final class SermonPanes {
         }
 
         private boolean isWord(String word) {
-            return token == LETTERS && isSame(word, 0, word.length());
+            return indexIn(word) == 0;
         }
 
         /** Which of the words, a blank between each two, the TOKEN is. */
         private int indexIn(String words) {
             int index = 0;
+            int same = 0;
             int from = 0;
             for (int i = 0; i <= words.length() && token == LETTERS; i++) {
                 if (i == words.length() || words.charAt(i) == ' ') {
-                    if (isSame(words, from, i)) {
+                    if (same == stop - start && same == i - from) {
                         return index;
                     }
                     index++;
+                    same = 0;
                     from = i + 1;
+                } else if (same == i - from && start + same < stop && words.charAt(i) == bytes[start + same]) {
+                    same++;
                 }
             }
             return NONE;
-        }
-
-        private boolean isSame(String words, int from, int to) {
-            if (to - from != stop - start) {
-                return false;
-            }
-            for (int i = from; i < to; i++) {
-                if (words.charAt(i) != bytes[start + i - from]) {
-                    return false;
-                }
-            }
-            return true;
         }
     }
 
@@ -1574,6 +1534,7 @@ public final class SermonPanes {
         private final int[] does = new int[LISTENERS * SEATS];
         private final int[] mostFrom = new int[ALL_SETS];
         private final int[] unlike = new int[WORDS * WORDS];
+        private final int[] blackAt = new int[PANES];
         private final int[] blackAhead = new int[PANES];
         private final long[] chances = new long[MOST_VISITORS + 2];
         private int setCount = 0;
@@ -1872,6 +1833,9 @@ public final class SermonPanes {
         /** How many BLACK ones are on the WAY. */
         int prepareWay(int place) {
             destination = place;
+            for (int pane = 0; pane < PANES; pane++) {
+                blackAt[pane] = pane != place && church.isBlack(pane) ? 1 : 0;
+            }
             int steps = distance(church.now.pulpit, place);
             Arrays.fill(blackAhead, UNREACHED);
             blackAhead[place] = 0;
@@ -1889,7 +1853,7 @@ public final class SermonPanes {
             int least = UNREACHED;
             for (int to = 0; to < PANES; to++) {
                 if (isStepOn(from, to)) {
-                    least = Math.min(least, blackAhead[to] + blackAt(to));
+                    least = Math.min(least, blackAhead[to] + blackAt[to]);
                 }
             }
             return least;
@@ -1898,10 +1862,6 @@ public final class SermonPanes {
         private boolean isStepOn(int from, int to) {
             return distance(from, to) == 1
                     && distance(to, destination) == distance(from, destination) - 1;
-        }
-
-        private int blackAt(int place) {
-            return place != destination && church.isBlack(place) ? 1 : 0;
         }
 
         /** Behind prepareWay(). */
@@ -1915,7 +1875,7 @@ public final class SermonPanes {
 
         private int nextOfWay(int from) {
             for (int to = 0; to < PANES; to++) {
-                if (isStepOn(from, to) && blackAhead[to] + blackAt(to) == blackAhead[from]) {
+                if (isStepOn(from, to) && blackAhead[to] + blackAt[to] == blackAhead[from]) {
                     return to;
                 }
             }
