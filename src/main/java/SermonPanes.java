@@ -46,7 +46,7 @@ public final class SermonPanes {
 
     private static final int TAPE = 400;
     private static final int FED = 20;
-    private static final int BYTES_OF_A_NUMBER = 4;
+    private static final int PANE_BYTES = 1 + HUES;
     private static final int CLAUSES = 12;
     private static final int PARTS = 50;
     private static final int BRACKETS = 8;
@@ -248,7 +248,7 @@ public final class SermonPanes {
         }
         int panesTold = 0;
         leadCount = 0;
-        for (int from = 0; from < tapeLength; from += 1 + HUES) {
+        for (int from = 0; from < tapeLength; from += PANE_BYTES) {
             if (tellPane(from)) {
                 panesTold++;
             } else {
@@ -565,7 +565,7 @@ public final class SermonPanes {
     }
 
     private boolean tellPane(int from) {
-        if (from + BYTES_OF_A_NUMBER > tapeLength || !isPane(tape[from])) {
+        if (from + PANE_BYTES > tapeLength || !isPane(tape[from])) {
             return false;
         }
         for (int hue = 0; hue < HUES; hue++) {
@@ -1415,7 +1415,8 @@ public final class SermonPanes {
                     index++;
                     same = 0;
                     from = i + 1;
-                } else if (same == i - from && start + same < stop && words.charAt(i) == bytes[start + same]) {
+                } else if (same == i - from && start + same < stop
+                        && words.charAt(i) == bytes[start + same]) {
                     same++;
                 }
             }

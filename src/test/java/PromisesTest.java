@@ -355,6 +355,11 @@ public final class PromisesTest {
         faultOfLaw("Bars", 0);
         faultOfLaw("bars\t", 4);
         faultOfLaw("barsif 1 = 1", 0);
+        faultOfLaw("barsz", 0);
+        faultOfLaw("bars`", 4);
+        faultOfLaw("bars{", 4);
+        faultOfLaw("does 1/2", NONE);
+        faultOfLaw("does 1:2", 6);
         faultOfLaw("preach 1", 0);
         faultOfLaw("stains1000if1=1", NONE);
         faultOfLaw("stains 0001000", NONE);
