@@ -783,7 +783,7 @@ public final class SermonPanes {
                 asked[ASKED_FORCE] = wordForce[word];
             }
             if (pane != NONE) {
-                asked[ASKED_AWAY] = awayOf(pane);
+                asked[ASKED_AWAY] = distance(pane, now.pulpit);
                 asked[ASKED_ROW] = pane / SIDE;
                 asked[ASKED_COLUMN] = pane % SIDE;
                 System.arraycopy(now.hues, pane * HUES, asked, ASKED_RED, HUES);
