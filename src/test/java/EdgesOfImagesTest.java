@@ -96,6 +96,8 @@ public final class EdgesOfImagesTest {
         Edges.taken(x, "all BARRED", () -> x.years(1, 60), 0);
         due("nothing", x.drawn(0, 0), 0);
         due("the HOURS pass", x.drawn(0, 3), 70);
+        SermonPanes none = Edges.add(Edges.under("stains 0"), 0, 5);
+        Edges.taken(none, "PREACHED, though nothing is got", () -> none.years(1, 60), preachings(1, 60));
         SermonPanes y = Edges.add(Edges.under("stains 1;bars if word = 1"), 0, 5, 1, 5);
         int[] s = draws(7, 180);
         int all = 0;
@@ -269,6 +271,11 @@ public final class EdgesOfImagesTest {
         due("the LAW as it was", x.of(0, 3), 7);
         due("the WORD as it was", x.of(0, 0), 0);
         due("the FORCE as it was", x.of(0, 1), 5);
+        due("TOLD as it was", x.preached(NONE), 0);
+        x.forget();
+        x.told(0, 0, 7);
+        due("TOLD anew", x.preached(NONE), 1);
+        x.back(1);
         due("TOLD as it was", x.preached(NONE), 0);
         x.back(0);
         Edges.same("IMAGES stay", Edges.all(x), start);

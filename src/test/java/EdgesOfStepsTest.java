@@ -230,17 +230,68 @@ public final class EdgesOfStepsTest {
         due("none more", x.undo(), -3);
     }
 
-    @Edges.Edge(promise = 23, says = "by ORDERS, too")
-    static void ordersUndoneOneByOne() {
-        SermonPanes x = Edges.seating(Edges.with(0, 9), 0, 50);
-        due("orders", Edges.orders(x, "preach 0;scrape 0 of 0;walk 3;sit 0 at 1;pass"), 5);
-        due("can be undone", x.count(6), 5);
+    @Edges.Edge(promise = 23, says = "16 are kept) is undone")
+    static void refusedStepsLeaveTheOldest() {
+        for (int kind = 0; kind < 5; kind++) {
+            SermonPanes x = Edges.seating(Edges.add(Edges.under("bars if hour = 999"), 0, 5), 0, 50);
+            x.terms(0, 983);
+            for (int i = 0; i < 16; i++) {
+                x.pass();
+            }
+            due("16 are kept", x.count(6), 16);
+            int[] by = {x.preach(0), x.scrape(9, 0), x.walk(0), x.sit(0, 0), x.pass()};
+            due("REFUSED", by[kind] < 0 ? 1 : 0, 1);
+            for (int i = 15; i >= 0; i--) {
+                due("undo()", x.undo(), 4);
+                due("HOUR", x.count(14), 983 + i);
+            }
+        }
+    }
+
+    /** Ahead of each of five steps, one of each kind, what all is. */
+    private static String[] aheadOfEach(SermonPanes x) {
+        String[] ahead = new String[5];
+        ahead[0] = Edges.all(x);
+        x.preach(0);
+        ahead[1] = Edges.all(x);
+        x.scrape(0, 0);
+        ahead[2] = Edges.all(x);
+        x.walk(3);
+        ahead[3] = Edges.all(x);
+        x.sit(0, 1);
+        ahead[4] = Edges.all(x);
+        x.pass();
+        return ahead;
+    }
+
+    @Edges.Edge(promise = 23, says = "is undone: 0 .. 4.")
+    static void eachStepUndoneInTurn() {
+        SermonPanes twin = Edges.seating(Edges.add(Edges.under("stains 5;does 7"), 0, 9), 0, 50);
+        String[] ahead = aheadOfEach(twin);
+        SermonPanes x = Edges.seating(Edges.add(Edges.under("stains 5;does 7"), 0, 9), 0, 50);
+        x.preach(0);
+        x.scrape(0, 0);
+        x.walk(3);
+        x.sit(0, 1);
+        x.pass();
         for (int kind = 4; kind >= 0; kind--) {
             due("undo()", x.undo(), kind);
+            Edges.same("behind undo() of " + kind, Edges.all(x), ahead[kind]);
+        }
+    }
+
+    @Edges.Edge(promise = 23, says = "by ORDERS, too")
+    static void ordersUndoneOneByOne() {
+        SermonPanes twin = Edges.seating(Edges.add(Edges.under("stains 5;does 7"), 0, 9), 0, 50);
+        String[] ahead = aheadOfEach(twin);
+        SermonPanes x = Edges.seating(Edges.add(Edges.under("stains 5;does 7"), 0, 9), 0, 50);
+        due("orders", Edges.orders(x, "preach 0;scrape 0 of 0;walk 3;sit 0 at 1;pass"), 5);
+        Edges.same("as without ORDERS", Edges.all(x), Edges.all(twin));
+        for (int kind = 4; kind >= 0; kind--) {
+            due("undo()", x.undo(), kind);
+            Edges.same("behind undo() of " + kind, Edges.all(x), ahead[kind]);
         }
         due("undo()", x.undo(), -3);
-        due("at(0, 0)", x.at(0, 0), 0);
-        due("SEAT", x.has(0, 0), 0);
         due("orders", Edges.orders(x, "pass times 20"), 20);
         due("16 of 20", x.count(6), 16);
     }

@@ -90,6 +90,9 @@ public final class EdgesOfTextsTest {
         due("bytes", x.count(7), 0);
         due("again", x.law(), -6);
         due("FAULT", x.fault(), 0);
+        Edges.law(x, "  bars");
+        due("none", x.law(), -6);
+        due("FAULT of none", x.fault(), 0);
         // What was there before is not read once more behind a shorter TEXT.
         Edges.law(x, "bars if 1 = 1");
         due("shorter", Edges.law(x, "bars if"), -6);
@@ -117,6 +120,8 @@ public final class EdgesOfTextsTest {
         law("stains a", 7);
         law("stains z", 7);
         law("stains word1", 11);
+        law("barsz", 0);
+        law("abars", 0);
     }
 
     @Edges.Edge(promise = 13, says = "12 at most (FAULT at the 13th's first TOKEN)")
@@ -200,12 +205,16 @@ public final class EdgesOfTextsTest {
         law("preach 1", 0);
         law("pass", 0);
         law("1", 0);
+        law("noes 1", 0);
+        law("flacks 1", 0);
+        law("wars", 0);
     }
 
     @Edges.Edge(promise = 13, says = "\"spirit\" | \"hour\" | \"mood\".")
     static void wordsOfLaws() {
         law("does word+hue+force+away+row+column+red+blue+green+spirit+hour+mood", NONE);
-        String[] others = {"done", "latest", "pulpit", "black", "stains", "if", "and", "hues", "moo", "wor"};
+        String[] others = {"done", "latest", "pulpit", "black", "stains", "if", "and", "hues", "moo", "wor",
+            "xord", "xue", "xood", "xpirit", "hux"};
         for (String other : others) {
             law("does " + other, 5);
         }
@@ -280,6 +289,9 @@ public final class EdgesOfTextsTest {
         due("1 = 0", barred("1 = 0"), 0);
         due("not", barred("not 1 = 1"), 0);
         due("not not", barred("not not 1 = 1"), 1);
+        due("not (not)", barred("not (not 1 = 1)"), 1);
+        due("not (not), and", barred("1 = 1 and not (not 1 = 2 and not 1 = 1)"), 1);
+        due("not of not so", barred("not 1 = 2"), 1);
         due("not of the first alone", barred("not 1 = 1 or 1 = 1"), 1);
         law("bars if " + "not ".repeat(97) + "1=1", NONE);
         law("bars if", 7);
@@ -369,6 +381,20 @@ public final class EdgesOfTextsTest {
         due("WORD 1", y.of(1, 2), 1);
     }
 
+    @Edges.Edge(promise = 13, says = "\"spirit\" | \"hour\" | \"mood\"")
+    static void hourAndMoodAsked() {
+        SermonPanes x = Edges.under("stains mood + hour;does mood - hour;blacks mood * 10 + hour;bars if mood = 9 and hour = 3");
+        Edges.seating(Edges.add(x, 0, 1), 0, 50);
+        due("STAINS at first", x.of(0, 3), 0);
+        due("BARRED at first", x.of(0, 2), 0);
+        x.terms(0, 3);
+        x.terms(2, 9);
+        due("STAINS", x.of(0, 3), 12);
+        due("DOES", x.has(0, 2), 6);
+        due("BLACK from", x.at(0, 3), 93);
+        due("BARRED", x.of(0, 2), 1);
+    }
+
     @Edges.Edge(promise = 13, says = "A CLAUSE HOLDS, if its \"if\" (if it has one) is so, and neither that nor its SUM is BROKEN.")
     static void clausesThatHold() {
         due("not so", stained("3 if 1 = 2"), NONE);
@@ -376,6 +402,8 @@ public final class EdgesOfTextsTest {
         due("a BROKEN \"if\"", stained("3 if 1 / 0 = 1"), NONE);
         due("a BROKEN SUM", stained("3 / 0 if 1 = 1"), NONE);
         due("a BROKEN SUM, not so", stained("5;stains 3 / 0 if 1 = 2"), 5);
+        due("BROKEN ones ahead of it", stained("1 / 0;stains 1 if 1 / 0 = 1;stains 3"), 3);
+        due("BROKEN ones ahead of its \"if\"", stained("1 / 0;stains 3 if 1 = 1"), 3);
         due("BARRED by a BROKEN \"if\"", barred("1 % 0 = 0"), 0);
         SermonPanes x = Edges.seating(Edges.under("does 1 / 0;blacks 1 / 0"), 0, 50);
         due("BLACK from, by a BROKEN one", x.at(0, 3), 60);
@@ -481,6 +509,38 @@ public final class EdgesOfTextsTest {
         orders("pass if spirit 5" + "+spirit 5".repeat(29) + "+1".repeat(20) + "=1", 318);
     }
 
+    @Edges.Edge(promise = 14, says = "50 PARTS that are NUMBERS and words (FAULT at the 51st), 8 brackets of both kinds within one another (FAULT at the 9th) at most.")
+    static void textsAreCountedOneByOne() {
+        SermonPanes x = new SermonPanes();
+        for (int i = 0; i < 12; i++) {
+            due("51 PARTS, " + i, Edges.orders(x, "walk hour" + "+0".repeat(47) + "+1 if done=0"), -6);
+            due("their FAULT", x.fault(), 114);
+            due("50 PARTS and 8 brackets, " + i,
+                    Edges.orders(x, "walk [[[[[[[[" + "1+".repeat(3) + (i % 2 == 0 ? 2 : 3) + "]]]]]]]]" + "+0".repeat(44) + " if done=0"), 1);
+            due("PULPIT", x.count(3), i % 2 == 0 ? 5 : 6);
+        }
+    }
+
+    @Edges.Edge(promise = 14, says = "all is as it was ahead of it.")
+    static void whatCanBeUndoneIsAsItWas() {
+        SermonPanes x = Edges.with(0, 5);
+        // 22 steps, so that the oldest went already; then more than 16 that are all taken back.
+        for (int i = 1; i <= 11; i++) {
+            x.walk(i);
+            x.pass();
+        }
+        Edges.tape(x, "preach 0 times 20;walk 1;preach 0;walk 16");
+        Edges.refused(x, -3, "ORDERS", x::orders);
+        for (int i = 11; i > 3; i--) {
+            due("undo()", x.undo(), 4);
+            due("HOUR", x.count(14), i - 1);
+            due("PULPIT", x.count(3), i);
+            due("undo()", x.undo(), 2);
+            due("PULPIT", x.count(3), i - 1);
+        }
+        due("none more", x.undo(), -3);
+    }
+
     @Edges.Edge(promise = 14, says = "8 brackets of both kinds within one another")
     static void bracketsOfOrders() {
         orders("walk " + "[".repeat(8) + "1" + "]".repeat(8) + " if 1=2", NONE);
@@ -552,6 +612,10 @@ public final class EdgesOfTextsTest {
         SermonPanes x = Edges.seating(new SermonPanes(), 0, 0);
         due("no LISTENER 1", Edges.orders(x, "pass if spirit 1 = 0 - 1 and spirit 5 = 0 - 1"), 1);
         due("LISTENER 0 with 0", Edges.orders(x, "pass if spirit 0 = 0"), 1);
+        Edges.seating(x, 1, 7, 2, 8, 3, 9, 4, 10, 5, 99);
+        due("LISTENER 5 with 99", Edges.orders(x, "pass if spirit 5 = 99 and spirit 1 = 7"), 1);
+        SermonPanes w = Edges.seating(new SermonPanes(), 0, 50);
+        due("LISTENER 0 with 50", Edges.orders(w, "pass if spirit 0 = 50"), 1);
         due("none BLACK", Edges.orders(x, "pass if black = 0"), 1);
         SermonPanes y = Edges.under("blacks 0");
         due("all BLACK", Edges.orders(y, "pass if black = 16"), 1);

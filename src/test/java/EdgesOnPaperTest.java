@@ -46,6 +46,9 @@ public final class EdgesOnPaperTest {
         due("what it has", x.sermon(0, 10, 0, 1, NONE), 0);
         due("what it has, the first", x.sermon(0, 10, 0, 1, 0), NONE);
         due("4 more", x.sermon(0, 14, 0, 1, NONE), 1);
+        Edges.row(x, 0, 0, 7, 0);
+        due("4 more, with blue as it is", x.sermon(0, 4, 7, 0, NONE), 1);
+        due("less blue", x.sermon(0, 4, 6, 0, NONE), NONE);
         SermonPanes none = new SermonPanes();
         due("nothing without WORDS", none.sermon(15, 0, 0, 0, NONE), 0);
         due("1 without WORDS", none.sermon(15, 0, 0, 1, NONE), NONE);
@@ -90,6 +93,24 @@ public final class EdgesOnPaperTest {
         due("by what STAINS not", z.sermon(0, 1, 0, 0, NONE), NONE);
         Edges.row(z, 0, 3, 0, 0);
         due("by 3 each, as now", z.sermon(0, 12, 0, 0, NONE), 3);
+    }
+
+    @Edges.Edge(promise = 24, says = "as often as may be")
+    static void longestSermon() {
+        SermonPanes x = Edges.with(2, 1, 1, 1, 0, 1);
+        due("one by one", x.sermon(0, 1, 0, 0, NONE), 1);
+        due("99 times", x.sermon(0, 99, 0, 0, NONE), 99);
+        due("297 times", x.sermon(0, 99, 99, 99, NONE), 297);
+        due("the first", x.sermon(0, 99, 99, 99, 0), 0);
+        due("the 98th", x.sermon(0, 99, 99, 99, 98), 0);
+        due("the 99th", x.sermon(0, 99, 99, 99, 99), 1);
+        due("the last", x.sermon(0, 99, 99, 99, 296), 2);
+        due("behind the last", x.sermon(0, 99, 99, 99, 297), NONE);
+        SermonPanes all = Edges.with(0, 9, 0, 8, 0, 7, 0, 6, 0, 5, 0, 4, 0, 3, 0, 2);
+        due("of eight WORDS", all.sermon(0, 11, 0, 0, NONE), 2);
+        due("of eight WORDS, the first", all.sermon(0, 11, 0, 0, 0), 0);
+        due("of eight WORDS, the last", all.sermon(0, 11, 0, 0, 1), 7);
+        due("1 of eight WORDS", all.sermon(0, 1, 0, 0, NONE), NONE);
     }
 
     @Edges.Edge(promise = 24, says = "the first as a row of rising WORDS")
@@ -199,6 +220,14 @@ public final class EdgesOnPaperTest {
         due("without the sixth", x.preached(NONE), 5);
         x.told(14, 1, 20);
         due("both can't be", x.preached(NONE), 0);
+        SermonPanes y = Edges.with(0, 5, 0, 4, 0, 3, 0, 2, 0, 1, 0, 6, 0, 7, 0, 8);
+        y.told(10, 0, 4);
+        // Four AWAY the eight WORDS STAIN by 1, 0, 0, 0, 0, 2, 3, 4.
+        due("PANE 10: 4, and 1 with 3, each with any of four", y.preached(NONE), 32);
+        due("the lowest", y.preached(0), 1 + 64);
+        y.told(15, 0, 2);
+        due("PANE 15: 2, by the last alone", y.preached(NONE), 16);
+        due("the lowest", y.preached(0), 128);
         x.forget();
         Edges.row(x, 15, 50, 0, 0);
         x.told(15, 0, 0);
@@ -267,6 +296,10 @@ public final class EdgesOnPaperTest {
         due("not both on SEAT 7", z.seated(0), 13);
         due("the first as a row", z.seated(1), 1);
         due("the first as a row", z.seated(2), 7);
+        SermonPanes u = Edges.seating(Edges.under("does blue"), 7, 50);
+        Edges.row(u, 4, 0, 9, 0);
+        due("on SEAT 0 alone", u.seated(0), 9);
+        due("on SEAT 0 alone", u.seated(1), 0);
         SermonPanes w = Edges.seating(Edges.under("does blue - 5"), 0, 50);
         due("-5 on each, the lowest SEAT", w.seated(1), 0);
         due("-5", w.seated(0), -5);
@@ -347,10 +380,17 @@ public final class EdgesOnPaperTest {
         due("0 of any HUE", x.apart(0), NONE);
         SermonPanes y = Edges.add(Edges.under("stains 0;stains 1 if row = 3 and column = 3"), 0, 5, 1, 5);
         due("the last PANE alone", y.apart(1), 1 << 15);
+        SermonPanes u = Edges.add(Edges.under("stains 0;stains 1 if row + column = 0"), 0, 5, 1, 5);
+        due("the first PANE alone", u.apart(1), 1);
+        Edges.law(u, "stains 0;stains 1 if row = 2");
+        u.force(1);
+        due("by another LAW", u.apart(1), 1 << 8);
         // WORD w STAINS PANE w alone: of eight WORDS seven PANES tell all.
         SermonPanes z = Edges.add(Edges.under("stains 0;stains 1 if row * 4 + column = word"),
                 0, 1, 0, 1, 0, 1, 0, 1, 0, 1, 0, 1, 0, 1, 0, 1);
-        due("seven", z.apart(0), 7);
+        for (int i = 0; i < 4; i++) {
+            due("seven, time and again", z.apart(0), 7);
+        }
         due("the lowest seven", z.apart(1), 127);
         // Eight WORDS of which only PANES 0 and 3, or 1 and 2, tell all: as bits 9 and 6.
         SermonPanes w = Edges.add(Edges.under("stains 0;stains word + 1 if row = 0;"
@@ -391,6 +431,8 @@ public final class EdgesOnPaperTest {
         due("160, the most", y.place(9, 1), 160);
         SermonPanes z = Edges.add(Edges.under("stains away"), 0, 1);
         due("the furthest from 0", z.place(0, 0), 15);
+        due("the furthest from 3", z.place(3, 0), 12);
+        due("6", z.place(3, 1), 6);
         due("6", z.place(0, 1), 6);
         z.walk(9);
         due("wherever it is now", z.place(0, 1), 6);
@@ -430,6 +472,13 @@ public final class EdgesOnPaperTest {
         due("both ends BLACK", y.way(5, NONE), 0);
         due("around 1", y.way(5, 0), 4);
         due("then there", y.way(5, 1), 5);
+        y.walk(1);
+        due("from 1 to 4, not over 0", y.way(4, NONE), 1);
+        due("the first as a row, one being as BLACK", y.way(4, 0), 0);
+        Edges.row(y, 5, 0, 0, 0);
+        due("from 1 to 4, not over 0", y.way(4, NONE), 0);
+        due("but over 5", y.way(4, 0), 5);
+        y.walk(0);
         // A way around would be longer: only the fewest steps count.
         due("straight over it", y.way(2, NONE), 1);
         due("straight over it", y.way(2, 0), 1);
