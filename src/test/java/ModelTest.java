@@ -12,12 +12,17 @@ import java.util.Random;
 import java.util.TreeMap;
 
 /**
- * Long runs of calls drawn by fixed seeds, each answer held against a second reading of the
+ * Runs of calls drawn by fixed seeds, each answer held against a second reading of the
  * document: a model that tries everything out, by other ways than the class takes.
  */
 public final class ModelTest {
-    private static final int RUNS = 600;
+    private static final int RUNS = 4000;
+    /** "An object is used for at most 512 calls": what it answers to more is free. */
     private static final int CALLS = 512;
+    /** A draw's calls at most: a TAPE of 400 bytes by twenties, and what is asked about it. */
+    private static final int CALLS_OF_A_DRAW = 26;
+    /** The calls of allAgrees(). */
+    private static final int CALLS_OF_ALL = 16 * 6 + 6 * 3 + 17 + 8 * 19 + 1;
 
     // ---- the languages, as trees ----
 
@@ -1395,6 +1400,8 @@ public final class ModelTest {
     // ---- the runs ----
 
     private static final Map<String, int[]> seen = new LinkedHashMap<>();
+    /** How many calls the object of this run was used for. */
+    private static int made = 0;
 
     private static int number(byte[] bytes, int from) {
         int all = 0;
@@ -1458,6 +1465,7 @@ public final class ModelTest {
     }
 
     private static boolean agree(int run, int at, SermonPanes x, Model m, String name, int... a) {
+        made++;
         long[] both = call(x, m, name, a);
         int[] tally = seen.computeIfAbsent(name, n -> new int[2]);
         tally[0]++;
@@ -1594,21 +1602,30 @@ public final class ModelTest {
         return fine & agree(run, at, x, m, "status");
     }
 
+    private static boolean runAgrees(int run) {
+        Drawer d = new Drawer(run * 7919L + 11);
+        SermonPanes x = new SermonPanes();
+        Model m = new Model();
+        // To look at all takes half of an object's calls: every other run goes on drawing instead.
+        boolean looks = run % 2 == 0;
+        int drawn = CALLS - (looks ? CALLS_OF_ALL : 0) - CALLS_OF_A_DRAW;
+        made = 0;
+        boolean fine = true;
+        for (int at = 0; made <= drawn && fine; at++) {
+            fine = drawCall(run, at, d, x, m);
+        }
+        fine = fine && (!looks || allAgrees(run, -1, x, m));
+        if (made > CALLS) {
+            System.out.println("run " + run + " used its object for " + made + " calls");
+        }
+        return fine && made <= CALLS;
+    }
+
     public static void main(String[] args) {
         int runs = args.length > 0 ? Integer.parseInt(args[0]) : RUNS;
         int bad = 0;
         for (int run = 0; run < runs && bad < 5; run++) {
-            Drawer d = new Drawer(run * 7919L + 11);
-            SermonPanes x = new SermonPanes();
-            Model m = new Model();
-            boolean fine = true;
-            for (int at = 0; at < CALLS && fine; at++) {
-                fine = drawCall(run, at, d, x, m);
-                if (fine && at % 50 == 49) {
-                    fine = allAgrees(run, at, x, m);
-                }
-            }
-            bad += fine ? 0 : 1;
+            bad += runAgrees(run) ? 0 : 1;
         }
         if (args.length > 1) {
             for (Map.Entry<String, int[]> e : seen.entrySet()) {
